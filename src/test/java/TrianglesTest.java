@@ -260,6 +260,15 @@ public final class TrianglesTest {
         check.due("digest changes nothing", x.digest(), h);
         x.term(0, 0);
         check.due("a finding is not in it", x.digest(), h);
+        x = new DeltaLadders();
+        x.kind(0, 7, 1);
+        x.kind(7, 0, 0);
+        x.ladder(0, 0, 7);
+        h = mix(17, 2, 1);
+        h = mix(h, 0, 1, 0, 0, 0, 0, 0, 0, 0, 0, 0);
+        h = mix(h, 7, 0, 1, 0, 0, 0, 0, 0, 0, 0, 0);
+        h = mix(h, 0, 0, 0, 0, 0, 0, 0, 0, 0, 0, 1);
+        check.due("the first and the last", x.digest(), h);
     }
 
     private static long mix(long h, long... more) {
