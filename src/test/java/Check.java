@@ -15,6 +15,14 @@ final class Check {
         due(what, holds ? 1 : 0, 1);
     }
 
+    void same(String what, String got, String want) {
+        asked++;
+        if (!got.equals(want)) {
+            wrong++;
+            System.out.println(what + " tells " + got + ", due is " + want);
+        }
+    }
+
     /** c 0 on of a SHEET; terms that are not named are due to be 0. */
     void series(String name, DeltaLadders x, int s, long... want) {
         for (int i = 0; i < 10; i++) {
