@@ -24,7 +24,7 @@ public final class FaceTest {
     public static void main(String[] args) throws IOException {
         constants();
         members();
-        nestedNames();
+        namesInside();
         source();
         check.end("FaceTest");
     }
@@ -46,6 +46,9 @@ public final class FaceTest {
                     Modifier.isPublic(m.getModifiers()) && !Modifier.isStatic(m.getModifiers()));
                 check.due(m + " answers as told",
                     m.getReturnType() == (m.getName().equals("digest") ? long.class : int.class));
+                for (Class<?> parameter : m.getParameterTypes()) {
+                    check.due(m + " takes ints", parameter == int.class);
+                }
             }
         }
         check.due("the methods " + seen, seen.equals(new TreeSet<>(Set.of(METHODS))));
@@ -62,10 +65,14 @@ public final class FaceTest {
         check.due("without parameters", constructors[0].getParameterCount(), 0);
     }
 
-    private static void nestedNames() {
+    private static void namesInside() {
         Set<String> open = new TreeSet<>();
         for (String method : METHODS) {
             open.add(method.substring(0, method.indexOf(' ')));
+        }
+        for (Method m : DeltaLadders.class.getDeclaredMethods()) {
+            boolean isPrivate = Modifier.isPrivate(m.getModifiers());
+            check.due(m + " has a name of its own", !isPrivate || !open.contains(m.getName()));
         }
         check.due("at most twelve classes", DeltaLadders.class.getDeclaredClasses().length < 12);
         for (Class<?> nested : DeltaLadders.class.getDeclaredClasses()) {

@@ -9,6 +9,7 @@ public final class SeriesTest {
     public static void main(String[] args) {
         term();
         kind();
+        kindOutside();
         join();
         over();
         into();
@@ -44,8 +45,8 @@ public final class SeriesTest {
     }
 
     private static void kind() {
-        DeltaLadders x = new DeltaLadders();
         for (int a : new int[] {0, 1, 2, 3, 5003, 10006}) {
+            DeltaLadders x = new DeltaLadders();
             long[][] want = new long[8][10];
             long raised = 1;
             for (int n = 0; n < 10; n++) {
@@ -67,6 +68,11 @@ public final class SeriesTest {
                 check.series(call, x, 0, want[kind]);
             }
         }
+    }
+
+    private static void kindOutside() {
+        DeltaLadders x = new DeltaLadders();
+        x.kind(0, 7, 10006);
         long before = x.digest();
         check.refused("sheet -1", x, before, x.kind(-1, 0, 0), -2);
         check.refused("sheet 8", x, before, x.kind(8, 0, 0), -2);
